@@ -772,8 +772,8 @@ public final class CircusCoats {
 
         /** The place of a trunk on the train, or none; no trunk has none either. */
         static int placeOnTrain(Room room, int trunk) {
-            for (int place = 0; place < MOST_TRUNKS && trunk != NONE; place++) {
-                if (trunkAt(room, place) == trunk) {
+            for (int place = 0; place < MOST_TRUNKS && place < room.at(Room.LOADED); place++) {
+                if (room.at(Room.TRAIN + place) == trunk) {
                     return place;
                 }
             }
