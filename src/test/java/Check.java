@@ -1,11 +1,13 @@
-import java.util.NoSuchElementException;
-
 /** What the tests share: calls that are compared with what is due, and a print of all that an object shows. */
 final class Check {
     interface Call {
         Object answer();
     }
 
+    /** How many calls a print asks at the most. */
+    static final int CALLS_OF_PRINT = 240;
+
+    private static final int MOST_TOLD = 100;
     private static int wrong = 0;
     private static int checked = 0;
     private static String part = "";
@@ -24,47 +26,12 @@ final class Check {
         }
     }
 
-    /** Throws exactly this, no class below it, and changes nothing that can be seen. */
-    static void fails(CircusCoats x, Class<? extends RuntimeException> due, Call call) {
-        String before = print(x);
-        is(outcome(call), due.getSimpleName());
-        is(print(x), before);
-    }
-
-    static void outOfBounds(CircusCoats x, Call call) {
-        fails(x, IndexOutOfBoundsException.class, call);
-    }
-
-    static void illegal(CircusCoats x, Call call) {
-        fails(x, IllegalArgumentException.class, call);
-    }
-
-    static void none(CircusCoats x, Call call) {
-        fails(x, NoSuchElementException.class, call);
-    }
-
-    static void state(CircusCoats x, Call call) {
-        fails(x, IllegalStateException.class, call);
-    }
-
-    static void refused(CircusCoats x, int reason, int detail, Call call) {
-        fails(x, UnsupportedOperationException.class, call);
-        is(outcome(() -> x.refusal(false)), "" + reason);
-        is(outcome(() -> x.refusal(true)), "" + detail);
-    }
-
     /** What a call answers, or the name of what it throws. */
     static String outcome(Call call) {
         try {
             return String.valueOf(call.answer());
         } catch (RuntimeException e) {
             return e.getClass().getSimpleName();
-        }
-    }
-
-    static void type(CircusCoats x, String text) {
-        for (char c : text.toCharArray()) {
-            x.append(c);
         }
     }
 
@@ -100,6 +67,12 @@ final class Check {
         return seen.append(x.isWell()).toString();
     }
 
+    /** The print without the number of changes that can be undone, the last of the accounts. */
+    static String withoutChanges(String print) {
+        int end = print.indexOf('\n');
+        return print.substring(0, print.lastIndexOf(' ', end)) + print.substring(end);
+    }
+
     private static void printTrunks(CircusCoats x, StringBuilder seen) {
         for (int trunk = 0; trunk < x.account(4); trunk++) {
             for (int place = 0; place < 5; place++) {
@@ -127,6 +100,9 @@ final class Check {
             }
         }
         System.out.println(part + ": " + what + " at " + where);
+        if (wrong >= MOST_TOLD) {
+            end();
+        }
     }
 
     static void end() {

@@ -90,6 +90,10 @@ final class Model {
         return answer;
     }
 
+    int reason() {
+        return reason;
+    }
+
     private String answer(int method, int a, int b, int c) {
         switch (method) {
             case Walk.COAT: return coat(a);

@@ -37,6 +37,10 @@ final class Walk {
     static final int TORN_SHARE = 33;
     static final int METHODS = 34;
 
+    private static final int MOST_CALLS = 512;
+    // A refused call asks for its reason and detail.
+    private static final int CALLS_AFTER_THE_LAST = 2;
+    private static final int LONGEST_TEXT = 80;
     private static final int[] SETTING_UP = {COAT, COAT, ACT, COAT, SEAMSTRESS, TRUNK, WEAR};
     private static final int[][] MOODS = {
         {RIP, LOSE, SEW, SEW, SPANGLE, SPANGLE, LET_OUT, PASS, PATCH, TEAR, BRING, WORK, WORK_AGAIN},
@@ -47,6 +51,8 @@ final class Walk {
         {TEAR, TEAR, PATCH, PASS},
         {TEAR, GO_ON, WEAR, SEW, SPANGLE, PASS},
         {RIP, SEW, SEW, SEW, SEW, SEW, LOSE, SPANGLE, PATCH, TEAR},
+        {COAT, COAT, COAT, ACT, ACT, SEAMSTRESS, TRUNK, WEAR, RIP, LOSE},
+        {COAT, PACK, PACK, PACK, PACK, PACK, PACK, TRUNK, LOAD, UNLOAD},
     };
 
     private final CircusCoats x = new CircusCoats();
@@ -54,34 +60,43 @@ final class Walk {
     private final StringBuilder story = new StringBuilder();
     private final int[] reached;
     private long seed;
+    private int made = 0;
 
     Walk(long seed, int[] reached) {
         this.seed = seed;
         this.reached = reached;
     }
 
-    /** Whether object and model agree all along. */
-    boolean agrees(int calls) {
+    /** Whether object and model agree in each answer, and at last, where calls enough are left, in all that is seen. */
+    boolean agrees() {
         boolean isSingleMinded = below(2) == 0;
+        int calls = 1 + below(MOST_CALLS - CALLS_AFTER_THE_LAST);
         int mood = below(MOODS.length);
         for (int i = 0; i < 20 && isSingleMinded; i++) {
             if (!makes(SETTING_UP[i % SETTING_UP.length])) {
                 return false;
             }
         }
-        for (int i = 0; i < calls; i++) {
+        while (made < calls) {
             if (!isSingleMinded && below(12) == 0) {
                 mood = below(MOODS.length);
             }
             boolean isAny = below(isSingleMinded ? 100 : 3) == 0;
             int[] methods = MOODS[mood];
-            boolean isText = below(isSingleMinded ? 50 : 9) == 0;
+            boolean isText = below(isSingleMinded ? 50 : 9) == 0 && made + LONGEST_TEXT < calls;
             boolean same = isText ? readsText() : makes(isAny ? below(METHODS) : methods[below(methods.length)]);
             if (!same) {
                 return false;
             }
         }
-        return true;
+        return made + Check.CALLS_OF_PRINT > MOST_CALLS || looksTheSame();
+    }
+
+    private boolean looksTheSame() {
+        String seen = Check.print(x);
+        String due = model.print();
+        story.append(seen).append("\nin the model\n").append(due).append('\n');
+        return seen.equals(due);
     }
 
     String story() {
@@ -98,18 +113,17 @@ final class Walk {
     private boolean calls(int method, int a, int b, int c) {
         String due = model.call(method, a, b, c);
         String got = Check.outcome(() -> answer(method, a, b, c));
+        made++;
         story.append(method).append('(').append(a).append(", ").append(b).append(", ").append(c).append(") -> ");
-        story.append(got).append('\n');
-        if (!got.equals(due) || !Check.print(x).equals(model.print())) {
-            story.append("due is ").append(due).append('\n').append(Check.print(x)).append("\ndue is\n");
-            story.append(model.print()).append('\n');
+        story.append(got).append(", in the model ").append(due).append('\n');
+        if (!got.equals(due)) {
             return false;
         }
         return !got.equals(Model.REFUSED) || sameReason(method);
     }
 
     private boolean sameReason(int method) {
-        reached[x.refusal(false)] |= 1 << method;
+        reached[model.reason()] |= 1 << method;
         return calls(REFUSAL, 0, 0, 0) && calls(REFUSAL, 1, 0, 0);
     }
 
@@ -135,7 +149,7 @@ final class Walk {
             case WEAR: case SEW: case SPANGLE: case LET_OUT: return someCoat();
             case RIP: return below(12);
             case LOSE: return below(65);
-            case PACK: return below(20) == 0 ? below(7) - 1 : below(4);
+            case PACK: return below(20) == 0 ? below(7) - 1 : below(2 + below(3));
             case BRING: return below(4) == 0 ? below(103) : 1 + below(3);
             case OPEN: case WORK: case WORK_AGAIN: return below(20) == 0 ? below(9) - 1 : below(6);
             default: return 0;
@@ -148,7 +162,7 @@ final class Walk {
 
     private boolean readsText() {
         StringBuilder text = new StringBuilder();
-        int orders = 1 + below(below(4) == 0 ? 12 : 3);
+        int orders = 1 + below(below(4) == 0 ? 12 : 3); // of at most 5 characters and a semicolon
         for (int i = 0; i < orders; i++) {
             text.append(i > 0 ? ";" : "").append(order());
         }
@@ -168,7 +182,7 @@ final class Walk {
         switch (below(7)) {
             case 0: return "s" + below(3) + "@" + coat;
             case 1: return "w" + below(6) + ":" + coat;
-            case 2: return "k" + coat + ">" + below(4);
+            case 2: return "k" + coat + ">" + below(2 + below(3));
             case 3: return "l" + below(4);
             case 4: return "u";
             case 5: return "g" + below(6);
