@@ -8,16 +8,22 @@ import java.util.LinkedHashMap;
 import java.util.List;
 import java.util.Map;
 import java.util.Set;
+import java.util.regex.Matcher;
+import java.util.regex.Pattern;
 
 /**
- * The runs of src/test/runs/sentences.txt. Besides what each call of them answers: every sentence of the document
- * stands there; a call that throws, or only tells, leaves no trace, neither now nor after any number of calls of undo
- * nor after restore; a change is undone whole; and only append, read and a refusal touch the input, the error position
- * and the reason.
+ * The runs of src/test/runs/sentences.txt, and that of README.md. Besides what each call of them answers: every sentence
+ * of the document stands there; a call that throws, or only tells, leaves no trace, neither now nor after any number of
+ * calls of undo nor after restore; a change is undone whole; and only append, read and a refusal touch the input, the
+ * error position and the reason.
  */
 public final class RunsTest {
     private static final String RUNS = "src/test/runs/sentences.txt";
     private static final String DOCUMENT = "../shared/DOC.md";
+    private static final String README = "README.md";
+    private static final Pattern CALL_IN_README = Pattern.compile("    room\\.([^;]*);\\s*//\\s*(->.*)");
+    private static final Pattern TEXT_IN_README =
+        Pattern.compile("    for \\(char c : (\"[^\"]*\")\\.toCharArray\\(\\)\\) room\\.append\\(c\\);");
     private static final int MOST_CALLS = 512;
     private static final int MOST_UNDONE = 8;
     // The call that is looked at, those of undo, and the print.
@@ -51,7 +57,26 @@ public final class RunsTest {
         }
         needsRun(isRunDue);
         sections.forEach(RunsTest::nothingLeft);
+        playReadme();
         Check.end();
+    }
+
+    /** The lines of Java in the README, each with the answer behind its arrow, as one run. */
+    private static void playReadme() throws IOException {
+        Check.part(README);
+        StringBuilder run = new StringBuilder();
+        for (String line : Files.readAllLines(Path.of(README))) {
+            Matcher call = CALL_IN_README.matcher(line);
+            Matcher text = TEXT_IN_README.matcher(line);
+            if (call.matches()) {
+                run.append(';').append(call.group(1)).append(call.group(2));
+            } else if (text.matches()) {
+                run.append(";append(").append(text.group(1)).append(')');
+            } else {
+                Check.is(line.startsWith("    room.") || line.startsWith("    for "), false);
+            }
+        }
+        play(new Run(run.substring(1)));
     }
 
     private static void needsRun(boolean isRunDue) {
